@@ -16,8 +16,8 @@ public final class ShadeClasses {
     private static final int NO_NUMBER = -1;
     private static final int FAULT_AT_START = -10;
 
-    // The least common multiple of 1 .. 24: in parts of it every SPREAD is a whole number,
-    // 24 * 999 * 999 / 4 of them at most, a hundred times of which still fits a long.
+    // The least common multiple of 1 .. 24: a SPREAD is a whole number of its parts, and the
+    // largest there can be, 24 * 999 * 999 / 4, still fits a long a hundred times in such parts.
     private static final long PARTS = 5354228880L;
 
     // Euclid's way through two longs never takes more steps than this.
@@ -65,7 +65,9 @@ public final class ShadeClasses {
         chart.become(text.chart);
         text.length = 0;
         history.forget();
-        Arrays.fill(kept, false);
+        for (int i = 0; i < IMAGES; i++) {
+            kept[i] = false;
+        }
         partings.forget();
         return items;
     }

@@ -31,8 +31,8 @@ public final class ModelTest {
             new ModelTest(2000 + seed, 1, 1000, 10).run();
         }
         for (int seed = 0; seed < 6; seed++) {
-            new ModelTest(3000 + seed, 10, 60, 24).run();
-            new ModelTest(4000 + seed, 10, 1000, 24).run();
+            new ModelTest(3000 + seed, 3, 60, 24).run();
+            new ModelTest(4000 + seed, 3, 1000, 24).run();
         }
         System.out.println(compared + " answers compared, " + wrong + " wrong");
         if (wrong != 0) {
@@ -50,9 +50,22 @@ public final class ModelTest {
         }
     }
 
+    /** A map that is full from the start, and stays so for long: many partings. */
+    private void fill() {
+        for (int i = 0; i < size; i++) {
+            int number = random.nextInt(numbers);
+            same("puts(" + i / 10 + ", " + i % 10 + ", " + number + ")",
+                x.puts(i / 10, i % 10, number), m.puts(i / 10, i % 10, number));
+        }
+    }
+
     private void run() {
+        boolean large = size == 24;
+        if (large) {
+            fill();
+        }
         while (calls.size() < CALLS && !off) {
-            if (random.nextInt(12) == 0) {
+            if (random.nextInt(large ? 200 : 12) == 0) {
                 text();
             } else {
                 change();
