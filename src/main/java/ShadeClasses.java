@@ -414,7 +414,6 @@ public final class ShadeClasses {
         }
 
         void forget() {
-            next = 0;
             known = 0;
         }
     }
@@ -477,8 +476,6 @@ public final class ShadeClasses {
             placesBegun = 0;
             classesBegun = false;
             costBegun = false;
-            row = 0;
-            cell = 0;
         }
 
         /** Where the TOKEN that begins here ends; just here, if none begins. */

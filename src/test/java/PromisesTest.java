@@ -163,6 +163,8 @@ public final class PromisesTest {
         fault("x1;", 0);
         fault("pk1;", 0);
         fault("pp", 0);
+        fault("ka1;", 0);
+        fault("kz1;", 0);
         fault("1;", 0);
         fault(";", 0);
         fault("K1;", 0);
@@ -231,7 +233,14 @@ public final class PromisesTest {
         due("the image is there", x.back(0), 3);
         x.puts(1, 1, 8);
         types(x, "6;");
+        runs("till then", x, 5, 8);
+        due("LEAST till then", x.least(6, -1), 3);
+        due("LAST till then", x.last(3, 3), 2);
         due("mended", x.map(), 2);
+        runs("anew", x, 2);
+        due("LEAST anew", x.least(6, -1), 1);
+        due("LAST anew", x.last(3, 1), NONE);
+        due("LAST anew", x.last(3, 3), BAD);
         counts("anew", x, 1, 1, 6, 0, NONE, 2, 0, 0);
         due("no undo", x.undo(), STATE);
         due("no image 0", x.back(0), STATE);
@@ -610,7 +619,12 @@ public final class PromisesTest {
         promise = 21;
         due("back(-1)", x.back(-1), BAD);
         due("back(2)", x.back(2), BAD);
+        due("LEAST till then", x.least(6, -1), 2);
+        due("LAST till then", x.last(2, 2), 1);
         due("back(0)", x.back(0), 3);
+        due("LEAST", x.least(6, -1), 3);
+        due("LAST", x.last(3, 3), 2);
+        due("LAST", x.last(2, 3), 2);
         counts("back", x, 3, 3, 2, 3, 1, 8, 0, 2);
         due("moved", x.moved(), 0);
         due("nothing to undo", x.undo(), STATE);
