@@ -29,10 +29,12 @@ public final class MapBoundsTest {
         noneToUndo();
         twoImages();
         imagesKeepFourThings();
+        allBecomesAsKept();
         keptPlaces();
         noneWasKept();
         nothingUndoneBehindBack();
         countsOfWhat();
+        fiveHundredAndTwelveCalls();
         Bounds.ends();
     }
 
@@ -460,6 +462,26 @@ public final class MapBoundsTest {
         Bounds.due("what is changed behind it is not kept", x.back(1), 3);
     }
 
+    private static void allBecomesAsKept() {
+        Bounds.says("All of that becomes as an IMAGE has it: PLACES.");
+        ShadeClasses x = Bounds.of(0, 2, 6);
+        x.keep(0);
+        x.drops(0, 2);
+        Bounds.runs("ahead of it", x, 0, 2);
+        Bounds.due("sorted(2, 0) ahead of it", x.sorted(2, 0), BAD);
+        Bounds.due("least(6, -1) ahead of it", x.least(6, -1), 2);
+        Bounds.due("last(2, 2) ahead of it", x.last(2, 2), 1);
+        Bounds.due("enough(0) ahead of it", x.enough(0), 2);
+        Bounds.due("back", x.back(0), 3);
+        Bounds.runs("behind it", x, 0, 2, 6);
+        Bounds.due("sorted(2, 0)", x.sorted(2, 0), 6);
+        Bounds.due("least(6, -1)", x.least(6, -1), 3);
+        Bounds.due("last(2, 3)", x.last(2, 3), 2);
+        Bounds.due("enough(0)", x.enough(0), 3);
+        Bounds.due("back to what is there already", x.back(0), 3);
+        Bounds.runs("it is as it was", x, 0, 2, 6);
+    }
+
     private static void keptPlaces() {
         Bounds.says("An IMAGE is kept: PLACES.");
         ShadeClasses x = new ShadeClasses();
@@ -516,5 +538,18 @@ public final class MapBoundsTest {
         }
         Bounds.due("the largest sum", x.count(5), 24 * 999);
         Bounds.due("SORTED of like ones", x.count(1), 1);
+    }
+
+    private static void fiveHundredAndTwelveCalls() {
+        Bounds.says("An object is used for at most 512 calls after it has been made");
+        ShadeClasses x = new ShadeClasses();
+        for (int call = 1; call <= 255; call++) {
+            int at = call % 24;
+            int till = call <= 24 ? NONE : call - 24;
+            Bounds.due("puts, call " + (2 * call - 1), x.puts(at / 10, at % 10, call), till);
+            Bounds.due("place, call " + 2 * call, x.place(at / 10, at % 10, 0), call);
+        }
+        Bounds.due("the 511th", x.count(1), 24);
+        Bounds.due("the 512th", x.undo(), 9);
     }
 }

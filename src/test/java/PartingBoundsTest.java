@@ -7,6 +7,7 @@ public final class PartingBoundsTest {
         sortedFromZero();
         weights();
         fewerThanWanted();
+        noneEmpty();
         beginsAtItsLeast();
         spreadOfARun();
         spreadOfAllRuns();
@@ -106,6 +107,22 @@ public final class PartingBoundsTest {
         ShadeClasses alike = Bounds.of(4, 4, 4, 9, 9, 9);
         alike.asks(6);
         Bounds.runs("like ones together", alike, 4, 9);
+    }
+
+    private static void noneEmpty() {
+        Bounds.says("runs of SORTED, one behind the other, none empty");
+        ShadeClasses x = Bounds.told("p0 0 0;p0 1 10;p0 2 20;k2;c999;");
+        x.closes();
+        x.drops(0, 0);
+        Bounds.runs("a strange border is dearer than one run, and must be", x, 10, 20);
+        x.puts(0, 3, 30);
+        Bounds.runs("the old border has nothing ahead of it", x, 10, 20);
+        x.asks(3);
+        Bounds.runs("two strange borders", x, 10, 20, 30);
+        x.puts(0, 1, 11);
+        Bounds.runs("the old border has no number", x, 11, 20, 30);
+        x.asks(6);
+        Bounds.runs("more wanted than there are", x, 11, 20, 30);
     }
 
     private static void beginsAtItsLeast() {
@@ -308,6 +325,12 @@ public final class PartingBoundsTest {
         Bounds.runs("a little dearer", x, 10, 20);
         x.costs(21);
         Bounds.runs("a little cheaper", x, 10, 18);
+        ShadeClasses low = Bounds.told("p0 0 0;p0 1 2;k2;c6;");
+        low.closes();
+        low.puts(0, 2, 6);
+        Bounds.runs("the old border 2 leaves 8, the border 6 leaves 2: both 8", low, 0, 2);
+        low.costs(5);
+        Bounds.runs("a little cheaper", low, 0, 6);
         ShadeClasses y = Bounds.of(0, 1, 2, 3, 4);
         Bounds.runs("no edition", y, 0, 1, 3);
         y.closes();
@@ -348,7 +371,7 @@ public final class PartingBoundsTest {
     private static void nothingIsChanged() {
         Bounds.says("(Nothing is changed.)");
         Bounds.refused("every question", Bounds::rich, PartingBoundsTest::asksAll, 0);
-        Bounds.refused("every question", Bounds::brimful, PartingBoundsTest::asksAll, 0);
+        Bounds.refused("every question", Bounds::full, PartingBoundsTest::asksAll, 0);
         ShadeClasses x = Bounds.rich();
         int first = x.now(1);
         long upper = x.gain(2, 0);

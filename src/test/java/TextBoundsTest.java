@@ -167,7 +167,10 @@ public final class TextBoundsTest {
         Bounds.says("TOKENS are letters a .. z side by side, NUMERALS and ;");
         fault("pp0 0 1;", 0);
         fault("kc1;", 0);
-        fault("k1;ka1;", 3);
+        fault("ka1;", 0);
+        fault("kz1;", 0);
+        fault("pa0 0 1;", 0);
+        fault("cz1;", 0);
         fault("k1a;", 2);
         fault("k1;az", 3);
         fault("p0p;", 2);
